@@ -44,8 +44,8 @@ public final class DesertChannels {
     private static final int FIELD_LOSS_MOST = 100;
     private static final int LOSS_UNKNOWN = 1000000000;
 
-    private final Tape tape;
     private final LawReader reader;
+    private final Tape tape;
     private final int[] lawNow;
     private int wrongByte;
 
@@ -65,8 +65,8 @@ public final class DesertChannels {
     private final Fields fields;
 
     public DesertChannels() {
-        tape = new Tape();
-        reader = new LawReader(tape);
+        reader = new LawReader();
+        tape = reader.tape;
         lawNow = new int[LAW_SIZE];
         wrongByte = NONE;
         channels = new Channel[CHANNELS_MOST];
@@ -503,7 +503,7 @@ public final class DesertChannels {
         int channel = left.channel;
         int from = left.from;
         boolean isKept = false;
-        for (int i = 0; i < many; i++) {
+        for (int i = 0; i < many && i < HEIRS_MOST; i++) {
             int to = from + heirRow.length[i];
             if (to > from && isKept) {
                 addShare(channel, from, to, heirRow.owner[i]);
@@ -571,14 +571,10 @@ public final class DesertChannels {
 
     /** Reads a law from the tape thing by thing; begin is where the thing looked at begins. */
     private static final class LawReader {
-        private final Tape tape;
+        final Tape tape = new Tape();
         final int[] draft = new int[LAW_SIZE];
         int begin;
         private int behind;
-
-        LawReader(Tape tape) {
-            this.tape = tape;
-        }
 
         /** How many terms there are; NONE, with begin at the first wrong byte, if the text is wrong. */
         int readTerms(int[] lawNow) {

@@ -307,9 +307,29 @@ public final class PromiseTest {
         Check.same("a hundredth rounded up", c.flow(flat), 145);
         int dry = dug(c, 50, 90, 999, 50, 90, 1000);
         Check.same("nothing leaks of nothing", c.flow(dry), 0);
+        int even = dug(c, 0, 90, 490, 0, 90, 490, 0, 90, 491);
+        Check.same("of 100 leaks 1", c.flow(even), 50 + 50 - 1 + 50);
+        int drop = dug(c, 0, 50, 985, 0, 50, 985);
+        Check.same("of 1 leaks 1", c.flow(drop), 1 - 1 + 1);
+        mostOfAll();
         c.collapse(0, 0, true);
         Check.same("collapsed mouth", c.flow(0), 0);
         drawnFlow();
+    }
+
+    private static void mostOfAll() {
+        DesertChannels c = new DesertChannels();
+        c.ground(2000, 20);
+        for (int i = 0; i < 8; i++) {
+            c.channel();
+            for (int w = 0; w < 20; w++) {
+                c.well(i, 0, 0, w);
+            }
+            c.dig(i, i, 1);
+        }
+        c.years(100);
+        Check.same("8 channels of 20 wells", c.count(7), 8 * 20 * 50);
+        Check.same("no harm where water is enough", c.harm(0), 0);
     }
 
     private static void drawnFlow() {
@@ -323,6 +343,11 @@ public final class PromiseTest {
             c.years(1);
         }
         Check.same("flow", c.flow(0), 27 + 29 - 1 + 1);
+        dug(c, 0, 7, 0, 0, 7, 1);
+        c.years(1);
+        Check.same("age counts from the digging: 4 of 23", c.seep(0, 0), 27);
+        c.years(1);
+        Check.same("9 of 23", c.seep(0, 0), 26);
         DesertChannels d = new DesertChannels();
         d.ground(300, 0);
         dug(d, 50, 50, 0, 50, 50, 1);
@@ -429,12 +454,15 @@ public final class PromiseTest {
         Check.refused("61 would be", FULL, () -> c.sell(0, 1, 2, 1));
         Check.refused("argument first", ARGUMENT, () -> c.sell(0, 2, 2, 1));
         Check.same("all stays", shareText(c, 0), "0:0-1382 of 1 0");
-        c.sell(0, 0, 2, 1);
+        c.sell(0, 1380, 1382, 1);
         Check.same("60 shares", c.count(4), 60);
-        Check.refused("61 would be", FULL, () -> c.sell(0, 0, 1, 1));
-        Check.refused("61 would be", FULL, () -> c.sell(0, 1, 2, 1));
-        c.sell(0, 0, 2, 2);
-        Check.same("no new one", shareText(c, 0), "0:0-2 of 2 0");
+        Check.same("ahead of it", shareText(c, 59), "0:0-1380 of 1 0");
+        Check.same("none of 60 is let", c.count(5), 0);
+        Check.same("the last minute", c.holder(0, 1439), 0);
+        Check.refused("61 would be", FULL, () -> c.sell(0, 1380, 1381, 1));
+        Check.refused("61 would be", FULL, () -> c.sell(0, 1381, 1382, 1));
+        c.sell(0, 1380, 1382, 2);
+        Check.same("no new one", shareText(c, 0), "0:1380-1382 of 2 0");
     }
 
     private static void promise15Heirs() {
@@ -554,8 +582,12 @@ public final class PromiseTest {
         Check.same("the last minute", c.holder(0, 2879), 5);
         Check.same("third day", c.holder(0, 2880), 4);
         Check.same("the other channel", c.holder(1, 1440), 0);
+        c.sell(2, 700, 1440, 8);
+        Check.same("just ahead of it", c.holder(0, 699), 4);
+        Check.same("its first", c.holder(0, 700), 8);
         Check.same("the largest minute", c.holder(0, 2147483647), 2147483647 % 2880 < 1440 ? 4 : 5);
-        c.let(2, 6, 1440, 4321);
+        c.sell(2, 700, 1440, 4);
+        c.let(3, 6, 1440, 4321);
         Check.same("not this share's minute", c.holder(0, 1440), 5);
         Check.same("let", c.holder(0, 2880), 6);
         Check.same("let no more", c.holder(0, 5760), 4);
@@ -626,6 +658,8 @@ public final class PromiseTest {
         wrongAt("fre 1", 0);
         wrongAt("Free 1", 0);
         wrongAt("freE 1", 0);
+        wrongAt("tree 1", 0);
+        wrongAt("repair beads", 7);
         wrongAt("free -1", 5);
         wrongAt("free one", 5);
         wrongAt("free\t1", 4);
@@ -684,6 +718,10 @@ public final class PromiseTest {
                 + c.pays(0, 30, 101), "23 23 22");
         law(c, "free 100");
         Check.same("all free", c.pays(0, 2, 1000000), 0);
+        Check.same("costs of nothing", c.pays(0, 2, 0), 0);
+        law(c, "free 0;repair hours");
+        c.sell(1, 0, 720, 1);
+        Check.same("owner 0 is the first", c.pays(1, 0, 101) + " " + c.pays(1, 1, 101), "51 50");
     }
 
     private static void promise24Field() {
