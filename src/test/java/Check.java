@@ -28,6 +28,16 @@ final class Check {
         tell(got.equals(want.getName()), what + " throws", got, want.getName());
     }
 
+    static void taken(String what, Runnable call) {
+        String got = "nothing";
+        try {
+            call.run();
+        } catch (RuntimeException e) {
+            got = e.getClass().getName();
+        }
+        tell(got.equals("nothing"), what + " throws", got, "nothing");
+    }
+
     private static void tell(boolean isRight, String what, String got, String want) {
         if (isRight) {
             right++;

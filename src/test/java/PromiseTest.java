@@ -1,13 +1,5 @@
-import java.util.NoSuchElementException;
-
 /** For each promise of the document ordinary calls, the edges that it names, and wrong ones. */
-public final class PromiseTest {
-    private static final Class<IndexOutOfBoundsException> NO_SUCH = IndexOutOfBoundsException.class;
-    private static final Class<IllegalStateException> STATE = IllegalStateException.class;
-    private static final Class<IllegalArgumentException> ARGUMENT = IllegalArgumentException.class;
-    private static final Class<UnsupportedOperationException> FULL = UnsupportedOperationException.class;
-    private static final Class<NoSuchElementException> NO_WHAT = NoSuchElementException.class;
-
+public final class PromiseTest extends Helpers {
     private PromiseTest() {
     }
 
@@ -39,52 +31,6 @@ public final class PromiseTest {
         promise25Least();
         promise26Count();
         Check.finish("PromiseTest");
-    }
-
-    /** A channel of the wells x, y, floor, x, y, floor, ..: its number. */
-    static int told(DesertChannels c, int... wells) {
-        int number = c.channel();
-        for (int i = 0; i + 2 < wells.length; i += 3) {
-            c.well(number, wells[i], wells[i + 1], wells[i + 2]);
-        }
-        return number;
-    }
-
-    static int dug(DesertChannels c, int... wells) {
-        int number = told(c, wells);
-        c.dig(number, 0, 1);
-        return number;
-    }
-
-    static void write(DesertChannels c, String text) {
-        c.end(0);
-        for (int i = 0; i < text.length(); i += 20) {
-            int[] n = new int[5];
-            for (int k = 0; k < 20; k++) {
-                int sign = i + k < text.length() ? text.charAt(i + k) : 'z';
-                n[k / 4] = n[k / 4] << 8 | sign;
-            }
-            c.feed(n[0], n[1], n[2], n[3], n[4]);
-        }
-        c.end(text.length());
-    }
-
-    static int law(DesertChannels c, String text) {
-        write(c, text);
-        return c.law();
-    }
-
-    private static void wrongAt(String text, int at) {
-        DesertChannels c = new DesertChannels();
-        law(c, "distance 7;depth 8;repair heads;free 9");
-        Check.refused("law '" + text + "'", ARGUMENT, () -> law(c, text));
-        Check.same("fault of '" + text + "'", c.fault(), at);
-        Check.same("tape is used up", c.end(1), false);
-        Check.same("law stays", c.says(0) + " " + c.says(1) + " " + c.says(2) + " " + c.says(3), "7 8 1 9");
-    }
-
-    private static String shareText(DesertChannels c, int n) {
-        return c.share(n, 0) + ":" + c.share(n, 1) + "-" + c.share(n, 2) + " of " + c.share(n, 3) + " " + c.share(n, 4);
     }
 
     private static void promise1NewObject() {
@@ -615,9 +561,9 @@ public final class PromiseTest {
         Check.same("one term", law(c, "distance 100"), 1);
         Check.same("used up", c.end(1), false);
         Check.same("blanks anywhere", law(c, "   depth   1000  ;  repair   heads ; free 0100   "), 3);
-        Check.same("all", c.says(0) + " " + c.says(1) + " " + c.says(2) + " " + c.says(3), "100 1000 1 100");
+        Check.same("all", says(c), "100 1000 1 100");
         Check.same("no blanks", law(c, "distance0;depth0000;repair hours;free7"), 4);
-        Check.same("all", c.says(0) + " " + c.says(1) + " " + c.says(2) + " " + c.says(3), "0 0 0 7");
+        Check.same("all", says(c), "0 0 0 7");
         Check.same("the later counts", law(c, "free 1;free 2;free 3;repair heads;repair hours"), 5);
         Check.same("free", c.says(3), 3);
         Check.same("hours", c.says(2), 0);

@@ -8,13 +8,15 @@ import java.util.Random;
 public final class RandomRunsTest {
     private static final int RUNS = 400;
     private static final int CALLS = 512;
-    private static final int[] ODD = {-1, 0, 1, 2, 30, 31, 100, 101, 1000, 1001, 1440, 10000, 1000000,
-        Integer.MAX_VALUE, Integer.MIN_VALUE};
+    /** The document's limits; what is odd is one of them, the one below it or the one above. */
+    private static final int[] LIMITS = {0, 2, 4, 5, 8, 9, 15, 20, 30, 50, 60, 100, 400, 1000, 1440, 2000, 10000, 21600,
+        100000, 1000000, 100000000, Integer.MAX_VALUE, Integer.MIN_VALUE};
     private static final String[] WORDS = {"distance", "depth", "repair", "free", "hours", "heads", ";", " ", "5",
         "100", "101", "1000", "0007", "00007", "x", "A", "1001", "40"};
 
     private final Random random;
     private final int run;
+    private final int oddEvery;
     private final DesertChannels desert = new DesertChannels();
     private final Model model = new Model();
     private final Map<String, Method> ofDesert = methods(DesertChannels.class);
@@ -24,6 +26,7 @@ public final class RandomRunsTest {
     private RandomRunsTest(int run) {
         this.run = run;
         random = new Random(run);
+        oddEvery = run % 4 == 0 ? 5 : 40;
     }
 
     public static void main(String[] args) {
@@ -64,9 +67,15 @@ public final class RandomRunsTest {
         return random.nextInt(most + 1);
     }
 
-    /** Mostly what fits, now and then what is odd anywhere. */
+    /** Mostly what fits, often its ends, now and then what lies next to a limit of anything. */
     private int mostly(int least, int most) {
-        return random.nextInt(40) == 0 ? ODD[random.nextInt(ODD.length)] : least + upTo(most - least);
+        if (random.nextInt(oddEvery) == 0) {
+            return LIMITS[random.nextInt(LIMITS.length)] - 1 + upTo(2);
+        }
+        if (random.nextInt(oddEvery) == 0) {
+            return random.nextBoolean() ? least - upTo(1) : most + upTo(1);
+        }
+        return least + upTo(most - least);
     }
 
     private int anyChannel() {
