@@ -11,13 +11,32 @@ import java.util.Set;
 /** The class's face is the document's, and it keeps those rules of LANGUAGE.md that reflection can see. */
 public final class FaceTest {
     private static final String[] FACE = {
-        "boolean collapse(int,int,boolean)", "boolean end(int)", "boolean may(int)",
-        "int channel()", "int count(int)", "int dig(int,int,int)", "int fault()",
-        "int feed(int,int,int,int,int)", "int field(int,int,int)", "int flow(int)", "int harm(int)",
-        "int heirs(int,int,int,int,int,int,int,int,int,int)", "int holder(int,int)", "int law()",
-        "int least()", "int minutes(int)", "int pays(int,int,int)", "int says(int)", "int seep(int,int)",
-        "int share(int,int)", "int well(int,int,int,int)", "int years(int)",
-        "void ground(int,int)", "void let(int,int,int,int)", "void sell(int,int,int,int)"
+        "int feed(int,int,int,int,int)",
+        "boolean end(int)",
+        "void ground(int,int) IllegalArgument",
+        "int channel() UnsupportedOperation",
+        "int well(int,int,int,int) IndexOutOfBounds IllegalState IllegalArgument UnsupportedOperation",
+        "boolean may(int) IndexOutOfBounds IllegalState",
+        "int dig(int,int,int) IndexOutOfBounds IllegalState IllegalArgument",
+        "int years(int) IllegalArgument",
+        "boolean collapse(int,int,boolean) IndexOutOfBounds IllegalState",
+        "int flow(int) IndexOutOfBounds IllegalState",
+        "int harm(int) IndexOutOfBounds IllegalState",
+        "int seep(int,int) IndexOutOfBounds IllegalState",
+        "void sell(int,int,int,int) IndexOutOfBounds IllegalState IllegalArgument UnsupportedOperation",
+        "int heirs(int,int,int,int,int,int,int,int,int,int) IndexOutOfBounds IllegalState IllegalArgument"
+            + " UnsupportedOperation",
+        "void let(int,int,int,int) IndexOutOfBounds IllegalState IllegalArgument",
+        "int minutes(int) IllegalArgument",
+        "int holder(int,int) IndexOutOfBounds IllegalArgument",
+        "int share(int,int) IndexOutOfBounds NoSuchElement",
+        "int law() IllegalArgument",
+        "int fault()",
+        "int says(int) NoSuchElement",
+        "int pays(int,int,int) IndexOutOfBounds IllegalState IllegalArgument",
+        "int field(int,int,int) IllegalArgument",
+        "int least()",
+        "int count(int)"
     };
 
     private FaceTest() {
@@ -32,6 +51,7 @@ public final class FaceTest {
         Check.same("constructors", made.length, 1);
         Check.same("constructor is public", Modifier.isPublic(made[0].getModifiers()), true);
         Check.same("constructor takes nothing", made[0].getParameterCount(), 0);
+        Check.same("constructor throws nothing", made[0].getExceptionTypes().length, 0);
         for (Field f : c.getDeclaredFields()) {
             Check.same(f.getName() + " is private", Modifier.isPrivate(f.getModifiers()), !f.getName().equals("NONE"));
         }
@@ -52,7 +72,7 @@ public final class FaceTest {
         Collections.sort(face);
         List<String> due = new ArrayList<>(List.of(FACE));
         Collections.sort(due);
-        Check.same("the face", face.toString(), due.toString());
+        Check.same("the face", String.join("\n", face), String.join("\n", due));
     }
 
     private static String written(Method m) {
@@ -60,7 +80,11 @@ public final class FaceTest {
         for (Class<?> p : m.getParameterTypes()) {
             s.append(s.charAt(s.length() - 1) == '(' ? "" : ",").append(p.getName());
         }
-        return s.append(')').toString();
+        s.append(')');
+        for (Class<?> thrown : m.getExceptionTypes()) {
+            s.append(' ').append(thrown.getSimpleName().replace("Exception", ""));
+        }
+        return s.toString();
     }
 
     private static void inside(Class<?> c) {
